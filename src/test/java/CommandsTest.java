@@ -62,6 +62,14 @@ public final class CommandsTest {
         fault("x", 0);
         fault(" wal 1 2;", 1);
         fault(" walls 1 2;", 1);
+        fault("pall 1 2;", 0);
+        fault("faint 0 0 0 0 0;", 0);
+        fault("damp 1 1;", 0);
+        fault("forner 0 0 0 0;", 0);
+        fault("whift 1 1;", 0);
+        fault("mail 0;", 0);
+        fault("send 0;", 0);
+        fault("turn 1;", 0);
         fault("wallx", 0);
         fault("burnburn 1;", 0);
         fault("Burn 1;", 0);
@@ -143,6 +151,13 @@ public final class CommandsTest {
         Check.due("21 commands", m.runCommands(), 21);
         Check.due("hours", m.whole(12), 279);
         burningSeesTheCommandsBefore();
+        LampMural n = Check.typed(new LampMural(), "burn 1");
+        Check.due("runCommands() of an unended command", n.runCommands(), -16);
+        n.type(';');
+        Check.due("runCommands() when it has ended", n.runCommands(), 1);
+        n.type('b');
+        Check.due("runCommands() of a new fault", n.runCommands(), -17);
+        Check.due("a text with a fault saves no state", n.undo(), 0);
     }
 
     private static void burningSeesTheCommandsBefore() {
@@ -254,6 +269,34 @@ public final class CommandsTest {
         m.clearCommands();
         m.shift(1, -1);
         Check.due("the digest after undo", m.digest(), before);
+        undoRestoresEachValue();
+    }
+
+    private static void undoRestoresEachValue() {
+        LampMural m = new LampMural();
+        m.begin(3, 3);
+        m.addLamp(100, 9);
+        m.setRectangle(0, 0, 0, 3, 2);
+        m.paint(0, 0, 2, 2, 66);
+        m.burn(3);
+        m.shift(1, -1);
+        long before = m.digest();
+        Check.Call[] calls = {() -> m.begin(2, 4), () -> m.paint(0, 1, 2, 1, 5), () -> m.addLamp(50, 60),
+            () -> m.setCorner(0, 2, 9, 9), () -> m.setRectangle(0, 1, 1, 9, 9), () -> m.setLamp(0, 0, 50),
+            () -> m.setLamp(0, 1, 80), () -> m.setLamp(0, 2, 800), () -> m.setWorks(0, false),
+            () -> m.shift(0, 0), () -> m.shift(1, 0), () -> m.burn(1000)};
+        for (int i = 0; i < calls.length; i++) {
+            calls[i].answer();
+            m.digest();
+            m.undo();
+            m.shift(1, -1);
+            Check.due("the digest after undo of the call " + i, m.digest(), before);
+        }
+        m.shift(3, 3);
+        Check.due("sum of the brightness far away", m.whole(11), 0);
+        m.undo();
+        Check.due("sum of the brightness after undo", m.whole(11), 264);
+        Check.due("sx after undo", m.whole(2), 1);
     }
 
     private static void promise27Digest() {

@@ -67,9 +67,20 @@ public final class ValuesTest {
         Check.index("light(0, 2, 0)", m, () -> m.light(0, 2, 0));
         Check.index("light(0, 0, 2)", m, () -> m.light(0, 0, 2));
         Check.index("light(0, -1, 0)", m, () -> m.light(0, -1, 0));
+        nothingAboveTheLimit();
         lightsByWeight();
         missingLightGoesInOrder();
         lessLightGoesInOrder();
+    }
+
+    private static void nothingAboveTheLimit() {
+        LampMural m = new LampMural();
+        m.addLamp(50, 50);
+        m.setRectangle(0, 0, 0, 1, 1);
+        for (int target = 48; target < 53; target++) {
+            m.paint(0, 0, 0, 0, target);
+            Check.due("light for the target " + target, m.light(0, 0, 0), 50);
+        }
     }
 
     private static void lightsByWeight() {
@@ -134,6 +145,12 @@ public final class ValuesTest {
         Check.due("weight of a triangle with a double corner", m.weight(0, 0, 0), 1);
         Check.due("weight in it", m.weight(0, 2, 0), 2);
         Check.due("a point on an edge is covered", m.lamp(0, 7), 6);
+        m.shift(0, 0);
+        m.setCorner(0, 0, 4, 0);
+        m.setCorner(0, 1, 0, 4);
+        m.setCorner(0, 2, 0, 0);
+        Check.due("weight next to the first edge", m.weight(0, 1, 2), 1);
+        Check.due("weight between the edges", m.weight(0, 1, 1), 2);
         m.setWorks(0, false);
         Check.due("weight of a failed lamp", m.weight(0, 0, 0), LampMural.NONE);
         Check.index("weight(1, 0, 0)", m, () -> m.weight(1, 0, 0));
@@ -163,6 +180,9 @@ public final class ValuesTest {
             Check.due("lamp(0, " + what + ") failed", m.lamp(0, what), failed[what]);
         }
         Check.due("the other covers alone then", m.lamp(1, 11), 2);
+        m.setRectangle(1, 0, 0, 1, 1);
+        m.setLamp(1, 0, 1);
+        Check.due("load at the limit 1 of one place", m.lamp(1, 9), 100);
         Check.index("lamp(2, 0)", m, () -> m.lamp(2, 0));
         Check.index("lamp(-1, 12)", m, () -> m.lamp(-1, 12));
         Check.argument("lamp(0, 12)", m, () -> m.lamp(0, 12));
@@ -198,6 +218,15 @@ public final class ValuesTest {
         for (int what = 0; what < shifted.length; what++) {
             Check.due("whole(" + what + ") later", m.whole(what), shifted[what]);
         }
+        LampMural first = new LampMural();
+        first.addLamp(0, 0);
+        first.addLamp(0, 0);
+        first.addLamp(0, 0);
+        first.setRectangle(0, 0, 0, 1, 1);
+        first.setRectangle(1, 0, 0, 1, 1);
+        Check.due("two lamps at the first place", first.whole(13), 1);
+        first.setRectangle(2, 0, 0, 2, 1);
+        Check.due("three lamps at the first place", first.whole(13), 1);
         Check.argument("whole(15)", m, () -> m.whole(15));
         Check.argument("whole(-1)", m, () -> m.whole(-1));
     }

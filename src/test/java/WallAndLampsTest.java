@@ -58,6 +58,28 @@ public final class WallAndLampsTest {
         n.begin(12, 8);
         Check.due("undo() of begin", n.undo(), 1);
         Check.due("the target before begin", n.place(0, 0, 0), 7);
+        nothingStaysOfALargerWall();
+    }
+
+    private static void nothingStaysOfALargerWall() {
+        LampMural m = new LampMural();
+        m.begin(24, 16);
+        m.addLamp(9, 9);
+        m.addLamp(9, 9);
+        m.setRectangle(0, 0, 0, 24, 16);
+        m.setRectangle(1, 12, 0, 24, 16);
+        Check.due("all places are too bright", m.whole(9), 384);
+        m.begin(1, 1);
+        Check.due("the only place is too bright", m.whole(9), 1);
+        Check.due("wrong(1)", m.wrong(1), LampMural.NONE);
+        Check.due("sum of the brightness", m.whole(11), 9);
+        Check.due("places of several lamps", m.whole(13), 0);
+        Check.due("places of the lamp 1", m.lamp(1, 7), 0);
+        Check.due("sum of the lights of the lamp 0", m.lamp(0, 8), 9);
+        Check.due("places of the lamp 0 alone", m.lamp(0, 11), 1);
+        Check.due("wrongWithout(1)", m.wrongWithout(1), 1);
+        m.begin(2, 1);
+        Check.due("sum of the brightness of two places", m.whole(11), 18);
     }
 
     private static void promise3Paint() {
@@ -88,6 +110,10 @@ public final class WallAndLampsTest {
 
     private static void promise4AddLamp() {
         LampMural m = new LampMural();
+        Check.due("addLamp(0, 255)", m.addLamp(0, 255), 0);
+        m.undo();
+        Check.due("addLamp(255, 0)", m.addLamp(255, 0), 0);
+        m.undo();
         Check.argument("addLamp(256, 0)", m, () -> m.addLamp(256, 0));
         Check.argument("addLamp(-1, 0)", m, () -> m.addLamp(-1, 0));
         Check.argument("addLamp(0, 256)", m, () -> m.addLamp(0, 256));
@@ -134,6 +160,8 @@ public final class WallAndLampsTest {
         Check.due("corner(0, 3, 0)", m.corner(0, 3, 0), -20);
         Check.due("setCorner(0, 3, 5, 3): a dent", m.setCorner(0, 3, 5, 3), 0);
         Check.due("setCorner(0, 3, 3, 5)", m.setCorner(0, 3, 3, 5), 1);
+        m.setCorner(0, 3, 5, 3);
+        m.setCorner(0, 3, 3, 5);
         Check.due("undo() of it", m.undo(), 3);
         Check.due("corner(0, 3, 0) after it", m.corner(0, 3, 0), 5);
         Check.index("setCorner(1, 0, 0, 0)", m, () -> m.setCorner(1, 0, 0, 0));
@@ -151,6 +179,11 @@ public final class WallAndLampsTest {
         back.addLamp(1, 1);
         back.setCorner(0, 1, 4, 0);
         Check.due("corners on one line, no area", back.setCorner(0, 2, 8, 0), 0);
+        back.setCorner(0, 0, 0, 1);
+        back.setCorner(0, 1, 0, 0);
+        back.setCorner(0, 2, 1, 0);
+        Check.due("the least triangle", back.setCorner(0, 3, 1, 0), 1);
+        Check.due("places that it covers", back.lamp(0, 7), 1);
     }
 
     private static void promise6SetRectangle() {
