@@ -96,6 +96,10 @@ public final class ValuesTest {
         Check.due("weight 2 of 14", m.light(0, 0, 0), 14);
         Check.due("weight 6 of 14, and the missing light", m.light(1, 0, 0), 44);
         Check.due("weight 6 of 14", m.light(2, 0, 0), 42);
+        m.setRectangle(0, -2, -2, 3, 3);
+        m.paint(0, 0, 0, 0, 101);
+        Check.due("the missing light goes to the lowest of the heaviest", m.light(0, 0, 0), 35);
+        Check.due("the next has its share alone", m.light(1, 0, 0), 33);
     }
 
     private static void missingLightGoesInOrder() {
@@ -168,6 +172,8 @@ public final class ValuesTest {
                 Check.due("lamp(" + n + ", " + what + ")", m.lamp(n, what), values[n][what]);
             }
         }
+        m.setLamp(0, 2, 1);
+        Check.due("limit of a little wear: 90 * 999 / 1000", m.lamp(0, 4), 89);
         m.setLamp(0, 2, 333);
         Check.due("limit of a worn lamp: 90 * 667 / 1000", m.lamp(0, 4), 60);
         m.setLamp(0, 1, 61);

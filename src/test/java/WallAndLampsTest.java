@@ -184,6 +184,11 @@ public final class WallAndLampsTest {
         back.setCorner(0, 2, 1, 0);
         Check.due("the least triangle", back.setCorner(0, 3, 1, 0), 1);
         Check.due("places that it covers", back.lamp(0, 7), 1);
+        back.setCorner(0, 0, 0, 0);
+        back.setCorner(0, 1, 2, 1);
+        back.setCorner(0, 3, 0, 5);
+        Check.due("the least dent", back.setCorner(0, 2, 3, 1), 0);
+        Check.due("straight on, no dent", back.setCorner(0, 2, 4, 2), 1);
     }
 
     private static void promise6SetRectangle() {

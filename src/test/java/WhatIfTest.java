@@ -94,6 +94,10 @@ public final class WhatIfTest {
         m.setRectangle(1, 5, 3, 6, 4);
         m.setRectangle(2, 5, 3, 7, 4);
         Check.due("bestShift(3) at its edge", m.bestShift(3), 1313);
+        LampMural dark = new LampMural();
+        dark.begin(24, 16);
+        dark.paint(0, 0, 23, 15, 9);
+        Check.due("bestShift(1) if all places are always wrong", dark.bestShift(1), 909);
         Check.argument("bestShift(4)", m, () -> m.bestShift(4));
         Check.argument("bestShift(-1)", m, () -> m.bestShift(-1));
     }
