@@ -4,6 +4,14 @@ final class Check {
         long answer();
     }
 
+    interface CallOf {
+        long answer(int value);
+    }
+
+    interface MuralCall {
+        long answer(LampMural mural);
+    }
+
     private static int wrong = 0;
     private static int made = 0;
 
@@ -47,12 +55,66 @@ final class Check {
         due(what + ": the digest after it", mural.digest(), before);
     }
 
+    /** Each value just beyond a range, and far beyond it, is refused as an argument. */
+    static void argumentBeyond(String what, LampMural mural, int low, int high, CallOf call) {
+        for (int value : beyond(low, high)) {
+            argument(what + " of " + value, mural, () -> call.answer(value));
+        }
+    }
+
+    /** Each value just beyond a range, and far beyond it, is refused as an index. */
+    static void indexBeyond(String what, LampMural mural, int low, int high, CallOf call) {
+        for (int value : beyond(low, high)) {
+            index(what + " of " + value, mural, () -> call.answer(value));
+        }
+    }
+
+    private static int[] beyond(int low, int high) {
+        return new int[] {low - 1, high + 1, high + 256, low + 65536, Integer.MIN_VALUE, Integer.MAX_VALUE};
+    }
+
+    /** The call saves one state, the one from before it; the mural comes with less than four saved states. */
+    static void undoable(String what, LampMural mural, MuralCall call) {
+        long before = mural.digest();
+        call.answer(mural);
+        mural.undo();
+        due("the digest after " + what + " and undo()", mural.digest(), before);
+    }
+
+    /** The call changes nothing, and saves a state all the same; the mural comes with less than four saved states. */
+    static void undoableWithoutChange(String what, LampMural mural, MuralCall call) {
+        long before = mural.digest();
+        call.answer(mural);
+        due("the digest after " + what + ", one state more", mural.digest(), before + stepOfSavedStates(mural));
+        mural.undo();
+        due("the digest after " + what + " and undo()", mural.digest(), before);
+    }
+
+    /** By how much one saved state more, and no other change, raises the digest. */
+    static long stepOfSavedStates(LampMural mural) {
+        int lamps = mural.whole(4);
+        int valuesBehind = 15 + lamps * (12 + 8) + mural.whole(0) * mural.whole(1) * (6 + lamps);
+        long step = 1;
+        for (int i = 0; i < valuesBehind; i++) {
+            step *= 31;
+        }
+        return step;
+    }
+
     static LampMural typed(LampMural mural, String text) {
         mural.clearCommands();
         for (int i = 0; i < text.length(); i++) {
             mural.type(text.charAt(i));
         }
         return mural;
+    }
+
+    static int made() {
+        return made;
+    }
+
+    static int wrong() {
+        return wrong;
     }
 
     static void end(String name) {
