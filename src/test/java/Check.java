@@ -117,6 +117,21 @@ final class Check {
         return wrong;
     }
 
+    /** A call that does not come back fails the test too. */
+    static void endInTime(String name) {
+        Thread watch = new Thread(() -> {
+            try {
+                Thread.sleep(100_000);
+            } catch (InterruptedException e) {
+                return;
+            }
+            System.out.println(name + ": there is no end after 100 seconds");
+            Runtime.getRuntime().halt(1);
+        });
+        watch.setDaemon(true);
+        watch.start();
+    }
+
     static void end(String name) {
         System.out.println(name + ": " + made + " checks, " + wrong + " wrong");
         if (wrong > 0 || made == 0) {

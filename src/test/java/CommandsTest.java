@@ -4,6 +4,7 @@ public final class CommandsTest {
     }
 
     public static void main(String[] args) {
+        Check.endInTime("CommandsTest");
         promise23Type();
         promise24ClearCommands();
         promise25Faults();

@@ -256,7 +256,9 @@ public final class LightTermsTest {
         worn.setLamp(0, 2, 900);
         Check.due("load of a limit that wear made 0", worn.lamp(0, 9), 0);
         Check.due("burn(9999) at a limit of 0", worn.burn(9999), 900);
-        Check.due("load of a limit of 1", row(1, 0, 100, 0).lamp(0, 9), 50);
+        Check.due("load of a product of 2", row(1, 0, 100, 0).lamp(0, 9), 50);
+        Check.due("load of a product of 1", row(1, 0, 100).lamp(0, 9), 100);
+        Check.due("load of a product of 1 without light", row(1, 0, 0).lamp(0, 9), 0);
     }
 
     @Sentence(in = "Terms, BURNING", says = "To burn some hours means: all loads are found, and then the wear")

@@ -430,6 +430,9 @@ public final class Promises11To17Test {
         }
         m.paint(0, 0, 0, 0, 255);
         Check.due("of 255", m.lamp(0, 10), 255);
+        m.begin(1, 1);
+        m.paint(0, 0, 0, 0, 3);
+        Check.due("of the only place of a smaller wall", m.lamp(0, 10), 3);
         m.setWorks(0, false);
         Check.due("of a failed lamp", m.lamp(0, 10), 0);
     }
@@ -642,6 +645,10 @@ public final class Promises11To17Test {
         m.begin(1, 1);
         Check.due("the sum of the targets of one place", m.whole(10), 0);
         Check.due("the sum of the brightness of one place", m.whole(11), 2040);
+        m.begin(2, 5);
+        m.paint(0, 0, 1, 4, 3);
+        Check.due("the sum of the targets with more rows than columns", m.whole(10), 30);
+        Check.due("the sum of the brightness with more rows than columns", m.whole(11), 20400);
         m.burn(9999);
         m.burn(9999);
         Check.due("hours", m.whole(12), 19998);
@@ -670,6 +677,10 @@ public final class Promises11To17Test {
         full.setRectangle(0, 0, 0, 24, 16);
         full.setRectangle(7, 0, 0, 24, 16);
         Check.due("of the lamps 0 and 7 on all places", full.whole(13), 384);
+        full.begin(1, 1);
+        Check.due("of the lamps 0 and 7 on the only place of a smaller wall", full.whole(13), 1);
+        full.begin(2, 5);
+        Check.due("of the lamps 0 and 7 with more rows than columns", full.whole(13), 10);
     }
 
     @Sentence(in = "Promise 16", says = "14 length of the command text")
@@ -739,6 +750,17 @@ public final class Promises11To17Test {
             Check.due("wrong(" + i + ")", m.wrong(i), places[i]);
         }
         Check.due("wrong(6)", m.wrong(6), LampMural.NONE);
+        m.begin(2, 5);
+        m.paint(1, 3, 1, 3, 1);
+        m.paint(0, 4, 1, 4, 1);
+        int[] tall = {301, 400, 401, LampMural.NONE};
+        for (int i = 0; i < tall.length; i++) {
+            Check.due("wrong(" + i + ") of a wall with more rows than columns", m.wrong(i), tall[i]);
+        }
+        m.begin(5, 2);
+        m.paint(4, 1, 4, 1, 1);
+        Check.due("wrong(0) of a wall with more columns than rows", m.wrong(0), 104);
+        Check.due("wrong(1) of it", m.wrong(1), LampMural.NONE);
     }
 
     @Sentence(in = "Promise 17", says = "Returns 100 * y + x; NONE if there are not so many.")

@@ -122,6 +122,10 @@ public final class Promises18To22Test {
         m.addLamp(9, 0);
         m.setRectangle(1, 0, 0, 24, 16);
         Check.due("none, as another lamp lights all", m.wrongWithout(0), 0);
+        m.setWorks(1, false);
+        m.begin(2, 5);
+        m.paint(0, 4, 1, 4, 9);
+        Check.due("the last row of five of two places", m.wrongWithout(0), 2);
         LampMural bright = place(0, lamp(9, 9));
         Check.due("a place that is too bright", bright.whole(9), 1);
         Check.due("none without the lamp that is too bright", bright.wrongWithout(0), 0);
@@ -224,6 +228,9 @@ public final class Promises18To22Test {
         Check.due("one row", m.wrongShifted(0, 1), 24);
         m.setRectangle(0, -20, -20, -15, -15);
         Check.due("all places", m.wrongShifted(0, 0), 384);
+        m.begin(2, 5);
+        m.paint(0, 4, 1, 4, 9);
+        Check.due("the last row of five of two places", m.wrongShifted(0, 0), 2);
         Check.due("none of a dark wall without lamps", new LampMural().wrongShifted(10, 10), 0);
         LampMural bright = place(0, lamp(9, 9));
         Check.due("a place that is too bright", bright.wrongShifted(0, 0), 1);
@@ -258,6 +265,11 @@ public final class Promises18To22Test {
         most.setRectangle(0, 2, 0, 26, 16);
         Check.due("the largest wall, a column wrong at best", most.bestShift(1), 1011);
         Check.due("the largest wall, right farther away", most.bestShift(2), 1012);
+        LampMural tall = place(0, lamp(9, 0));
+        tall.begin(1, 16);
+        tall.paint(0, 15, 0, 15, 9);
+        tall.setRectangle(0, 2, 17, 3, 18);
+        Check.due("the last of sixteen rows", tall.bestShift(2), 1212);
     }
 
     @Sentence(in = "Promise 21", says = "of the shifts whose sx and sy are at most some number in size")
@@ -372,6 +384,12 @@ public final class Promises18To22Test {
         Check.due("of a dark wall", m.neededLimit(0), 0);
         m.paint(2, 0, 2, 0, 1);
         Check.due("of one target of 1", m.neededLimit(0), 1);
+        m.begin(1, 16);
+        m.setRectangle(0, 0, 0, 1, 16);
+        m.paint(0, 15, 0, 15, 77);
+        Check.due("of the last of sixteen rows", m.neededLimit(0), 77);
+        m.begin(1, 1);
+        Check.due("of the only place of a smaller wall", m.neededLimit(0), 0);
     }
 
     @Sentence(in = "Promise 22", says = "0 if that is below 0, or it covers none.")

@@ -15,6 +15,7 @@ public final class RandomRunsTest {
     }
 
     public static void main(String[] args) {
+        Check.endInTime("RandomRunsTest");
         for (int seed = 1; seed <= 150; seed++) {
             new RandomRunsTest(seed).run(seed);
         }

@@ -22,6 +22,7 @@ final class Sentences {
     }
 
     static void run(Class<?> tests) {
+        Check.endInTime(tests.getName());
         for (Method method : of(tests)) {
             int madeBefore = Check.made();
             int wrongBefore = Check.wrong();

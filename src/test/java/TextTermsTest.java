@@ -57,6 +57,10 @@ public final class TextTermsTest {
         fault(all, all.length());
         fault(all + " 1;", all.length() + 1);
         String numbers = " 1".repeat(count) + ";";
+        for (int i = 0; i < word.length(); i++) {
+            char another = word.charAt(i) == 'z' ? 'y' : (char) (word.charAt(i) + 1);
+            fault(word.substring(0, i) + another + word.substring(i + 1) + numbers, 0);
+        }
         fault(word.substring(1) + numbers, 0);
         fault(word.substring(0, word.length() - 1) + numbers, 0);
         fault(word + "s" + numbers, 0);

@@ -4,6 +4,7 @@ public final class ValuesTest {
     }
 
     public static void main(String[] args) {
+        Check.endInTime("ValuesTest");
         promise11Place();
         promise12Light();
         promise13Weight();

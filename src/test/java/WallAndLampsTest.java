@@ -4,6 +4,7 @@ public final class WallAndLampsTest {
     }
 
     public static void main(String[] args) {
+        Check.endInTime("WallAndLampsTest");
         promise1NewObject();
         promise2Begin();
         promise3Paint();

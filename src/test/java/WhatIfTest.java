@@ -4,6 +4,7 @@ public final class WhatIfTest {
     }
 
     public static void main(String[] args) {
+        Check.endInTime("WhatIfTest");
         promise18WrongWithout();
         promise19DearestLamp();
         promise20WrongShifted();
